@@ -103,7 +103,7 @@ public final class MacroWiki {
         int refusal = rank < forceOn(page) ? LOCKED : refusalOf(page, draft);
         if (refusal == NONE) {
             Text text = new Text();
-            text.take(draft);
+            text.addAll(draft);
             edited.now = new Version(edited.now, edited.now.number + 1, text, rank);
             settle();
         }
@@ -337,7 +337,7 @@ public final class MacroWiki {
         return draft.size;
     }
 
-    /** The refusal of a text by what the pages would call then, NONE if there is none; the trial has these calls then. */
+    /** Why a text is refused for what its page would call, NONE if it is not; the trial is left with these calls. */
     private int refusalOf(int page, Text text) {
         trial.takeCalls(net);
         trial.setCalls(page, text);
@@ -419,10 +419,13 @@ public final class MacroWiki {
             case CALL_ON:
                 spread.takeCalledOn(pageAt(text.pageOf(i)).spread);
                 break;
-            case REDIRECT:
+            case LETTER:
+            case ARGUMENT:
+            case ANCHOR:
+            case LINK:
+                spread.add(spread.need(), sort, text.itemOf(i), page);
                 break;
             default:
-                spread.add(spread.need(), sort, text.itemOf(i), page);
                 break;
         }
     }
@@ -433,13 +436,14 @@ public final class MacroWiki {
             return;
         }
         Text text = pageAt(page).now.text;
+        // How many WHENs are open from the outermost one that leaves out what it holds.
         int shut = 0;
         for (int i = 0; i < text.size && !walk.isOver(); i++) {
             int sort = text.sortOf(i);
-            if (sort == WHEN) {
-                shut += shut > 0 || text.signOf(i) != argument ? 1 : 0;
-            } else if (sort == END) {
-                shut -= shut > 0 ? 1 : 0;
+            if (sort == WHEN && (shut > 0 || text.signOf(i) != argument)) {
+                shut++;
+            } else if (sort == END && shut > 0) {
+                shut--;
             } else if (shut == 0) {
                 walkPiece(walk, text, i, argument, depth);
             }
@@ -459,10 +463,12 @@ public final class MacroWiki {
                     walk.meet(argument);
                 }
                 break;
-            case REDIRECT:
+            case LETTER:
+            case ANCHOR:
+            case LINK:
+                walk.meet(text.itemOf(i));
                 break;
             default:
-                walk.meet(text.itemOf(i));
                 break;
         }
     }
@@ -591,8 +597,7 @@ public final class MacroWiki {
             openWhens = 0;
         }
 
-        void take(Text other) {
-            clear();
+        void addAll(Text other) {
             for (int i = 0; i < other.size; i++) {
                 add(other.sortOf(i), other.pageOf(i), other.signOf(i));
             }

@@ -53,7 +53,7 @@ public final class FaceTest {
                 open.add(signature(method));
             }
         }
-        CHECK.is(true, open.equals(new TreeSet<>(List.of(METHODS))), "the open methods are those of the document: " + open);
+        CHECK.is(true, open.equals(new TreeSet<>(List.of(METHODS))), "the open methods: " + open);
         int openFields = 0;
         for (Field field : MacroWiki.class.getDeclaredFields()) {
             openFields += Modifier.isPrivate(field.getModifiers()) ? 0 : 1;
@@ -80,12 +80,12 @@ public final class FaceTest {
         }
         for (Method method : MacroWiki.class.getDeclaredMethods()) {
             if (Modifier.isPrivate(method.getModifiers())) {
-                CHECK.is(false, open.contains(method.getName()), "a private method has a public name: " + method.getName());
+                CHECK.is(false, open.contains(method.getName()), "private, with a public name: " + method.getName());
             }
         }
         for (Class<?> inner : MacroWiki.class.getDeclaredClasses()) {
             for (Method method : inner.getDeclaredMethods()) {
-                CHECK.is(false, open.contains(method.getName()), "an inner method has a public name: " + method.getName());
+                CHECK.is(false, open.contains(method.getName()), "inner, with a public name: " + method.getName());
             }
         }
     }

@@ -11,7 +11,8 @@ public final class RandomRunsTest {
         "redirect", "edit", "undo", "approve", "lock", "setRank", "version", "rankOf", "force", "reaches", "extent",
         "items", "sortAt", "itemAt", "itemAnew", "sourceAt", "standsFor", "links", "broken", "firstBroken",
         "linkedFrom", "breaches", "breached"};
-    private static final int EDIT = 9, UNDO = 10, APPROVE = 11, LOCK = 12, SET_RANK = 13, VERSION = 14, FORCE = 16, EXTENT = 18;
+    private static final int EDIT = 9, UNDO = 10, APPROVE = 11, LOCK = 12, SET_RANK = 13, VERSION = 14;
+    private static final int FORCE = 16, EXTENT = 18;
     private static final int ITEMS = 19, SORT_AT = 20, SOURCE_AT = 23, STANDS_FOR = 24, LINKS = 25;
     private static final int BREACHES = 29, BREACHED = 30;
 
