@@ -75,6 +75,10 @@ final class RefusalBoundaries {
         t.says(sentence, "of a page that reaches it over five calls",
             Scenes.RANKS + Scenes.chainToFive() + "lock(3, 5, 3): 0\n" + Script.each("force(#): 3", Script.from(0, 5))
             + "force(6): 0; lock(3, 5, 0): 3\n" + Script.each("force(#): 0", Script.from(0, 5)));
+        t.says(sentence, "of a page that reaches it over five calls, each of the page behind it",
+            Scenes.RANKS + Scenes.fallingFromFive() + "lock(3, 0, 3): 0\n"
+            + Script.each("force(#): 3", Script.from(0, 5)) + "force(6): 0; undo(3, 2): 0; force(2): 3; force(3): 0; "
+            + "force(5): 0");
         t.says(sentence, "of a page in the middle: for those that it reaches, not for those that reach it",
             Scenes.RANKS + Scenes.chainToFive() + "lock(3, 3, 2): 0; force(5): 0; force(4): 0; force(3): 2; "
             + "force(2): 2; force(1): 2; force(0): 2");
@@ -142,6 +146,9 @@ final class RefusalBoundaries {
         t.says(sentence, "not what is shown with a letter alone",
             Scenes.RANKS + "argument(); when(1); letter(1); end(); edit(0, 0): 1; lock(3, 0, 3): 0; breaches(0): 0; "
             + "callOn(0); edit(3, 1): 1; lock(3, 1, 3): 0; breaches(1): 0; breached(): 0");
+        t.says(sentence, "not what is shown with the letter 0 alone, which is not none",
+            Scenes.RANKS + "when(0); letter(1); end(); edit(0, 0): 1; lock(3, 0, 3): 0; breaches(0): 0; breached(): 0; "
+            + "call(0, 0); edit(0, 1): 1; lock(3, 1, 3): 0; breaches(1): 1; breached(): 1");
         t.says(sentence, "the called page's argument, which the call gives",
             Scenes.RANKS + "argument(); edit(0, 0): 1; call(0, 1); edit(3, 1): 1; lock(3, 1, 1): 0; breaches(1): 1; "
             + "breaches(0): 0");
@@ -218,6 +225,12 @@ final class RefusalBoundaries {
             "call(11, 0); edit(0, 0): 1; call(0, 0); edit(0, 11): RING; call(1, 0); edit(0, 11): 1");
         t.says(sentence, "over five other pages",
             Scenes.chainToFive() + "call(5, NONE); edit(0, 0): RING; call(6, NONE); edit(0, 6): RING");
+        t.says(sentence, "over five other pages, each calls the one behind it",
+            Scenes.fallingFromFive() + "call(0, NONE); edit(0, 5): RING; call(5, NONE); edit(0, 5): RING; "
+            + "call(3, NONE); edit(0, 5): RING; call(6, NONE); edit(0, 6): RING");
+        t.says(sentence, "of the first page with the last",
+            "call(0, NONE); edit(0, 11): 1; call(11, NONE); edit(0, 0): RING; undo(0, 11): 0; call(11, NONE); "
+            + "edit(0, 0): 1; call(0, NONE); edit(0, 11): RING");
         t.says(sentence, "not over links and redirects",
             "link(0, 0); edit(0, 0): 1; redirect(0); edit(0, 0): 2; call(1, 0); edit(0, 0): 3; redirect(0); "
             + "edit(0, 1): 1; link(0, 0); edit(0, 1): 2");
@@ -236,6 +249,14 @@ final class RefusalBoundaries {
         t.says(sentence, "a page that calls it: 5 is laid, 6 is not",
             Scenes.chain(0, 2, 6) + "call(0, NONE); edit(0, 1): DEEP; letter(1); edit(0, 1): 1; undo(0, 6): 0; "
             + "call(0, NONE); edit(0, 1): 2; reaches(5): 31");
+        t.says(sentence, "each calls the one behind it: 5 is laid, 6 is not",
+            Scenes.fallingFromFive() + "reaches(0): 62; call(6, NONE); edit(0, 5): DEEP; version(5): 0; undo(0, 0): 0; "
+            + "call(6, NONE); edit(0, 5): 1; call(1, NONE); edit(0, 0): DEEP; version(0): 0; call(2, NONE); "
+            + "edit(0, 0): 1; call(0, NONE); edit(0, 11): DEEP");
+        t.says(sentence, "two rows of five, each calls the one behind it",
+            Scenes.fallingFromFive() + "call(11, NONE); edit(0, 10): 1; call(10, NONE); edit(0, 9): 1; call(9, NONE); "
+            + "edit(0, 8): 1; call(8, NONE); edit(0, 7): 1; call(7, NONE); edit(0, 6): 1; call(6, NONE); "
+            + "edit(0, 5): DEEP; call(11, NONE); edit(0, 4): 2; call(10, NONE); edit(0, 4): DEEP");
         t.says(sentence, "pages on both sides: 5 is laid, 6 is not",
             Scenes.chain(0, 1, 2) + Scenes.chain(0, 4, 6) + "call(2, NONE); edit(0, 3): DEEP; call(1, NONE); "
             + "edit(0, 3): 1; reaches(6): 59");
@@ -271,6 +292,17 @@ final class RefusalBoundaries {
         t.says(sentence, "a page that calls it: 100 is laid, 101 is not",
             "call(0, NONE); letter(1); edit(0, 1): 1; 5 x call(1, NONE); edit(0, 2): 1; 20 x letter(1); "
             + "edit(0, 0): LONG; version(0): 0; 19 x letter(1); edit(0, 0): 1; extent(2): 100; extent(1): 20");
+        t.says(sentence, "the first page, or the last",
+            Scenes.letters(10, 0, 5) + "10 x call(5, NONE); letter(1); edit(0, 0): LONG; 10 x call(5, NONE); "
+            + "letter(1); edit(0, 11): LONG; 10 x call(5, NONE); edit(0, 0): 1; 10 x call(5, NONE); edit(0, 11): 1; "
+            + "11 x letter(1); edit(0, 5): LONG; undo(0, 0): 0; 11 x letter(1); edit(0, 5): LONG; undo(0, 11): 0; "
+            + "11 x letter(1); edit(0, 5): 2");
+        t.says(sentence, "the first page alone, where that calls it, or the last alone",
+            Scenes.letters(10, 0, 5) + "10 x call(5, NONE); edit(0, 0): 1; 11 x letter(1); edit(0, 5): LONG",
+            Scenes.letters(10, 0, 5) + "10 x call(5, NONE); edit(0, 11): 1; 11 x letter(1); edit(0, 5): LONG");
+        t.says(sentence, "calls of each page",
+            Script.each("30 x letter(1); edit(0, #): 1; 4 x call(#, NONE); " + "edit(0, 0): LONG; 3 x call(#, NONE); "
+                + "edit(0, 0): 1; undo(0, 0): 0", Script.from(1, 11)));
         t.says(sentence, "a page that reaches it over five calls",
             Scenes.letters(10, 0, 0) + "10 x call(0, NONE); edit(0, 1): 1\n" + Scenes.chain(0, 2, 5)
             + "11 x letter(1); edit(0, 0): LONG; extent(5): 100; letter(1); call(4, NONE); edit(0, 5): LONG");

@@ -51,6 +51,12 @@ final class Scenes {
         return count + " x letter(1); edit(" + user + ", " + page + "): 1\n";
     }
 
+    /** The pages 0 to 5 again, the first of the depth 5: each calls the one behind it. */
+    static String fallingFromFive() {
+        return "call(5, NONE); edit(0, 4): 1; call(4, NONE); edit(0, 3): 1; call(3, NONE); edit(0, 2): 1\n"
+            + "call(2, NONE); edit(0, 1): 1; call(1, NONE); edit(0, 0): 1\n";
+    }
+
     /** The page 0 has the extent 10, and the page 1, which calls it ten times, 100. */
     static String hundred() {
         return letters(10, 0, 0) + "10 x call(0, NONE); edit(0, 1): 1\n";

@@ -2,6 +2,13 @@
 final class TermBoundaries {
     private static final int[] ALL_PAGES = Script.from(0, 11);
 
+    /** The page 11 calls 3, that 7, that 0, that 9, and that 5. */
+    private static final String UP_AND_DOWN = "callOn(3); edit(0, 11): 1; callOn(7); edit(0, 3): 1; "
+        + "callOn(0); edit(0, 7): 1; callOn(9); edit(0, 0): 1; callOn(5); edit(0, 9): 1\n";
+
+    private static final String FALLING_CALLS_ON = "callOn(1); edit(0, 0): 1; callOn(2); edit(0, 1): 1; "
+        + "callOn(3); edit(0, 2): 1; callOn(4); edit(0, 3): 1; callOn(5); edit(0, 4): 1\n";
+
     private final Boundaries t;
 
     TermBoundaries(Boundaries tests) {
@@ -171,6 +178,13 @@ final class TermBoundaries {
         t.says(reaches, "in whatever order they have been edited",
             "call(4, NONE); edit(0, 5): 1; call(2, NONE); edit(0, 3): 1; call(3, NONE); edit(0, 4): 1\nreaches(5): 28; "
             + "call(11, NONE); edit(0, 2): 1; reaches(5): 2076; undo(0, 3): 0; reaches(5): 24; reaches(4): 8");
+        t.says(reaches, "five that call one another, each the one behind it",
+            Scenes.fallingFromFive() + "reaches(5): 0; reaches(4): 32; reaches(3): 48; reaches(2): 56; reaches(1): 60; "
+            + "reaches(0): 62; call(11, NONE); edit(0, 5): DEEP; undo(0, 0): 0; call(11, NONE); edit(0, 5): 1; "
+            + "reaches(1): 2108; reaches(5): 2048");
+        t.says(reaches, "six, up and down",
+            UP_AND_DOWN + "reaches(11): 681; reaches(3): 673; reaches(7): 545; reaches(0): 544; reaches(9): 32; "
+            + "reaches(5): 0");
         t.says(reaches, "all others",
             Script.each("call(#, NONE)", Script.from(0, 10)) + "edit(0, 11): 1; reaches(11): 2047");
     }
@@ -210,6 +224,13 @@ final class TermBoundaries {
             "argument(); letter(1); edit(0, 0): 1; callOn(0); edit(0, 1): 1; callOn(1); edit(0, 2): 1; callOn(2); "
             + "edit(0, 3): 1; callOn(3); edit(0, 4): 1\ncallOn(4); call(4, 6); edit(0, 5): 1; "
             + "row(5, NONE): L1@0 L6@0 L1@0\n row(5, 2): L2@0 L1@0 L6@0 L1@0");
+        t.says(call, "five deep, each calls the one behind it, and the last one is edited and undone",
+            "argument(); letter(1); edit(0, 5): 1\n" + FALLING_CALLS_ON + "row(0, NONE): L1@5\n row(0, 2): L2@5 L1@5\n "
+            + "letter(3); edit(0, 5): 2; row(0, NONE): L3@5\n row(4, 2): L3@5\n undo(0, 5): 1; row(0, 2): L2@5 L1@5\n "
+            + "undo(0, 5): 0; row(0, 2)");
+        t.says(call, "five deep, up and down, and the last one is edited and undone",
+            UP_AND_DOWN + "letter(3); edit(0, 5): 1; row(11, NONE): L3@5\n row(0, 7): L3@5\n undo(0, 5): 0; "
+            + "row(11, NONE)");
         t.says("a redirect shows nothing", "alone, and among others",
             "redirect(1); edit(0, 0): 1; letter(4); edit(0, 1): 1; row(0, NONE)\n row(0, 3)\nletter(1); redirect(1); "
             + "letter(2); edit(0, 0): 2; row(0, NONE): L1@0 L2@0\n call(0, NONE); edit(0, 2): 1; "
@@ -284,6 +305,13 @@ final class TermBoundaries {
             Scenes.letters(3, 0, 0) + "call(0, NONE); call(0, 1); callOn(0); letter(1); edit(0, 1): 1; extent(1): 10\n"
             + "call(1, NONE); call(0, NONE); call(1, NONE); edit(0, 2): 1; extent(2): 23");
         t.says(sentence, "30 times", Scenes.letters(3, 0, 0) + "30 x callOn(0); edit(0, 1): 1; extent(1): 90");
+        t.says(sentence, "of each page that there is",
+            Script.each("# x letter(1); edit(0, #): 1", Script.from(1, 11))
+            + Script.each("callOn(#); edit(0, 0); extent(0): #", Script.from(1, 11))
+            + Script.each("callOn(#)", Script.from(1, 11)) + "edit(0, 0): 12; extent(0): 66; items(0, NONE): 66");
+        t.says(sentence, "of the last page that calls each other one",
+            "letter(1); edit(0, 0): 1; callOn(0); edit(0, 11): 1; extent(11): 1\n"
+            + Script.each("# x letter(1); edit(0, #): 1; callOn(#); edit(0, 11); extent(11): #", Script.from(1, 10)));
         t.says(sentence, "with the text of now of a called page",
             Scenes.letters(3, 0, 0) + "2 x callOn(0); edit(0, 1): 1; extent(1): 6; edit(0, 0): 2; extent(1): 0; "
             + "undo(0, 0): 1; extent(1): 6; undo(0, 0): 0; extent(1): 0");
@@ -299,6 +327,15 @@ final class TermBoundaries {
         t.says(sentence, "the greatest of those that it calls, the first or the last of its calls",
             Scenes.chainToFive() + "call(0, NONE); call(5, NONE); edit(0, 6): DEEP; call(5, NONE); call(0, NONE); "
             + "edit(0, 6): DEEP; call(4, NONE); call(0, NONE); call(3, NONE); edit(0, 6): 1");
+        t.says(sentence, "each calls the one behind it: 5, and 6 of the page 0",
+            "call(6, NONE); edit(0, 5): 1; call(5, NONE); edit(0, 4): 1; call(4, NONE); edit(0, 3): 1; call(3, NONE); "
+            + "edit(0, 2): 1; call(2, NONE); edit(0, 1): 1; call(1, NONE); edit(0, 0): DEEP; call(2, NONE); "
+            + "edit(0, 0): 1");
+        t.says(sentence, "each calls the one behind it, and the last one calls another: 6 of the page 0",
+            Scenes.fallingFromFive() + "call(6, NONE); edit(0, 5): DEEP; letter(1); edit(0, 5): 1");
+        t.says(sentence, "up and down",
+            UP_AND_DOWN + "call(1, NONE); edit(0, 5): DEEP; call(11, NONE); edit(0, 1): DEEP; call(3, NONE); "
+            + "edit(0, 1): 1");
         t.says(sentence, "many calls of one page count once",
             "30 x call(6, NONE); edit(0, 0): 1; 30 x call(0, NONE); edit(0, 1): 1");
     }
@@ -360,6 +397,8 @@ final class TermBoundaries {
             + link + "broken(1): 0");
         t.says(good, "not where the anchor is shown with a letter alone",
             link + "when(1); anchor(4); end(); edit(0, 0): 1; broken(1): 1");
+        t.says(good, "not where the anchor is shown with the letter 0 alone, which is not none",
+            link + "when(0); anchor(4); end(); edit(0, 0): 1; broken(1): 1; firstBroken(1): 4; linkedFrom(0): 0");
         t.says(good, "where the anchor is shown by a called page, with the argument of the call",
             link + "when(1); anchor(4); end(); edit(0, 2): 1; callOn(2); call(2, 0); edit(0, 0): 1; broken(1): 1; "
             + "call(2, 1); edit(0, 0): 2; broken(1): 0");
@@ -375,6 +414,10 @@ final class TermBoundaries {
         String shows = "A page has the links that it shows with no argument.";
         t.says(shows, "not those between a WHEN and its END",
             "when(1); link(0, 0); end(); edit(0, 0): 1; links(0): 0; broken(0): 0; firstBroken(0): NONE");
+        t.says(shows, "not those with the letter 0 alone, which is not none",
+            "anchor(4); edit(0, 5): 1; when(0); link(0, 0); link(5, 4); end(); edit(0, 0): 1; links(0): 0; "
+            + "broken(0): 0; firstBroken(0): NONE; linkedFrom(5): 0; callOn(0); edit(0, 1): 1; links(1): 0; "
+            + "call(0, 0); edit(0, 1): 2; links(1): 2; broken(1): 1; linkedFrom(5): 2");
         t.says(shows, "those of called pages, with the argument of the call",
             "when(1); link(0, 0); end(); edit(0, 1): 1; callOn(1); edit(0, 2): 1; links(2): 0; call(1, 0); "
             + "edit(0, 2): 2; links(2): 0; call(1, 1); edit(0, 2): 3; links(2): 1; links(1): 0");
