@@ -180,15 +180,15 @@ final class QuestionBoundaries {
         t.says(place, "0 is the first one", ofOne + name + "(0, NONE, 0); " + name + "(0, NONE, -1): NO_ITEM");
         String notSoMany = "if the page does not show so many items with it, or place is below 0";
         t.says(notSoMany, "an empty page: 0, -1, and the ends of int",
-            Script.each(name + "(0, NONE, #): NO_ITEM; " + name
-                + "(0, 7, #): NO_ITEM", 0, 1, -1, Scenes.MIN, Scenes.MAX));
+            Script.each(name + "(0, NONE, #): NO_ITEM; " + name + "(0, 7, #): NO_ITEM", 0, 1, -1, Scenes.MIN,
+                Scenes.MAX));
         t.says(notSoMany, "one item: 0 is one, 1 is none",
             ofOne + name + "(0, NONE, 0); " + name + "(0, NONE, 1): NO_ITEM; " + name + "(0, 25, 0); " + name + "(0, "
             + "25, 1): NO_ITEM");
         t.says(notSoMany, "below 0, and far behind, to the ends of int",
             ofOne
-            + Script.each(name + "(0, NONE, #): NO_ITEM", -1, -2, -256, Scenes.MIN, Scenes.MIN
-            + 1, 2, 31, 100, 256, 65536, Scenes.MAX - 1, Scenes.MAX));
+            + Script.each(name + "(0, NONE, #): NO_ITEM", -1, -2, -256, Scenes.MIN, Scenes.MIN + 1, 2, 31, 100, 256,
+                65536, Scenes.MAX - 1, Scenes.MAX));
         t.says(notSoMany, "a hundred items: 99 is one, 100 is none",
             Scenes.hundred() + name + "(1, NONE, 99); " + name + "(1, NONE, 100): NO_ITEM; " + name + "(1, 3, 99); "
             + name + "(1, 3, 100): NO_ITEM; " + name + "(1, 3, 101): NO_ITEM");
@@ -319,6 +319,9 @@ final class QuestionBoundaries {
         t.says(HOW_MANY, "0, 30 and 100",
             "links(0): 0; 30 x link(0, 0); edit(0, 0): 1; links(0): 30; 10 x link(0, 0); edit(0, 1): 1; "
             + "10 x call(1, 0); edit(0, 2): 1; links(2): 100");
+        t.says(sentence, "fewer behind an edit, more again behind an undo",
+            "3 x link(5, 0); edit(0, 0): 1; link(5, 0); edit(0, 0): 2; links(0): 1; edit(0, 0): 3; links(0): 0; "
+            + "undo(0, 0): 2; links(0): 1; undo(0, 0): 1; links(0): 3; undo(0, 0): 0; links(0): 0");
         noSuchPage("links");
     }
 
@@ -339,6 +342,9 @@ final class QuestionBoundaries {
             "broken(0): 0; 10 x link(5, 0); edit(0, 1): 1; 10 x call(1, 0); edit(0, 2): 1; broken(2): 100; anchor(0); "
             + "edit(0, 5): 1; broken(2): 0; links(2): 100");
         t.says(HOW_MANY, "each as often as it is shown", "3 x link(5, 0); edit(0, 0): 1; broken(0): 3");
+        t.says(sentence, "fewer behind an edit, more again behind an undo",
+            "3 x link(5, 0); edit(0, 0): 1; link(5, 0); edit(0, 0): 2; broken(0): 1; edit(0, 0): 3; broken(0): 0; "
+            + "undo(0, 0): 2; broken(0): 1; undo(0, 0): 1; broken(0): 3; undo(0, 0): 0; broken(0): 0");
         noSuchPage("broken");
     }
 
@@ -369,6 +375,10 @@ final class QuestionBoundaries {
         t.says(returns, "the hundredth of a hundred",
             "anchor(0); edit(0, 5): 1; 10 x link(5, 0); edit(0, 1): 1; 9 x call(1, 0); 9 x link(5, 0); link(5, 1); "
             + "edit(0, 2): 1; firstBroken(2): 51; broken(2): 1; links(2): 100");
+        t.says(returns, "NONE, where an edit or an undo takes the broken one away",
+            "anchor(0); edit(0, 5): 1; link(5, 0); link(5, 1); edit(0, 0): 1; firstBroken(0): 51; link(5, 0); "
+            + "edit(0, 0): 2; firstBroken(0): NONE; edit(0, 0): 3; firstBroken(0): NONE; undo(0, 0): 2; "
+            + "firstBroken(0): NONE; undo(0, 0): 1; firstBroken(0): 51; undo(0, 0): 0; firstBroken(0): NONE");
         noSuchPage("firstBroken");
     }
 
@@ -409,6 +419,10 @@ final class QuestionBoundaries {
         t.says(SET, "the hundredth item is the link",
             "anchor(0); edit(0, 0): 1\n" + Scenes.letters(10, 0, 1) + "9 x call(1, 0); 9 x letter(1); link(0, 0); "
             + "edit(0, 2): 1; linkedFrom(0): 4");
+        t.says(sentence, "no more, where an edit or an undo takes the link away",
+            "anchor(0); edit(0, 5): 1; letter(1); link(5, 0); edit(0, 0): 1; linkedFrom(5): 1; letter(1); "
+            + "edit(0, 0): 2; linkedFrom(5): 0; edit(0, 0): 3; linkedFrom(5): 0; undo(0, 0): 2; undo(0, 0): 1; "
+            + "linkedFrom(5): 1; undo(0, 0): 0; linkedFrom(5): 0");
         noSuchPage("linkedFrom");
     }
 
@@ -431,6 +445,14 @@ final class QuestionBoundaries {
             Scenes.RANKS + Scenes.letters(10, 0, 0) + "9 x call(0, 0); 9 x letter(1); argument(); edit(0, 1): 1; "
             + "lock(3, 1, 1): 0; breaches(1): 99; undo(3, 1): 0; lock(3, 1, 0): 1; 10 x call(0, 0); edit(0, 1): 1; "
             + "lock(3, 1, 1): 0; breaches(1): 100");
+        t.says(sentence, "fewer behind an edit, more again behind an undo",
+            Scenes.RANKS + "3 x letter(1); edit(0, 0): 1; letter(1); edit(0, 0): 2; edit(0, 0): 3; call(0, 0); "
+            + "edit(3, 1): 1; lock(3, 1, 1): 0; breaches(1): 0; breached(): 0; lock(3, 1, 0): 1; undo(0, 0): 2; "
+            + "lock(3, 1, 1): 0; breaches(1): 1; lock(3, 1, 0): 1; undo(0, 0): 1; lock(3, 1, 1): 0; breaches(1): 3; "
+            + "undo(3, 0): 0; breaches(1): 0; breached(): 0");
+        t.says(sentence, "of the page itself: fewer behind an edit",
+            Scenes.RANKS + "3 x letter(1); edit(0, 0): 1; letter(1); edit(0, 0): 2; lock(3, 0, 1): 0; breaches(0): 1; "
+            + "lock(3, 0, 0): 1; edit(0, 0): 3; lock(3, 0, 1): 0; breaches(0): 0; breached(): 0");
         noSuchPage("breaches");
     }
 
