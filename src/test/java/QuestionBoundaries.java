@@ -183,8 +183,8 @@ final class QuestionBoundaries {
             Script.each(name + "(0, NONE, #): NO_ITEM; " + name + "(0, 7, #): NO_ITEM", 0, 1, -1, Scenes.MIN,
                 Scenes.MAX));
         t.says(notSoMany, "one item: 0 is one, 1 is none",
-            ofOne + name + "(0, NONE, 0); " + name + "(0, NONE, 1): NO_ITEM; " + name + "(0, 25, 0); " + name + "(0, "
-            + "25, 1): NO_ITEM");
+            ofOne + name + "(0, NONE, 0); " + name + "(0, NONE, 1): NO_ITEM; " + name + "(0, 25, 0); "
+            + name + "(0, 25, 1): NO_ITEM");
         t.says(notSoMany, "below 0, and far behind, to the ends of int",
             ofOne
             + Script.each(name + "(0, NONE, #): NO_ITEM", -1, -2, -256, Scenes.MIN, Scenes.MIN + 1, 2, 31, 100, 256,
@@ -210,8 +210,8 @@ final class QuestionBoundaries {
             "when(0); letter(1); end(); when(25); letter(1); end(); edit(0, 0): 1; " + name + "(0, 0, 0); " + name
             + "(0, 25, 0); " + name + "(0, 1, 0): NO_ITEM; " + name + "(0, 24, 0): NO_ITEM");
         t.says("NONE for none", "the argument is nothing, and no WHEN is open to it",
-            "argument(); when(0); letter(1); end(); edit(0, 0): 1; " + name + "(0, NONE, 0): NO_ITEM; " + name + "(0, "
-            + "0, 1)");
+            "argument(); when(0); letter(1); end(); edit(0, 0): 1; " + name + "(0, NONE, 0): NO_ITEM; "
+            + name + "(0, 0, 1)");
         noSuchPageOfItems(name + "(#, 0, 0)", name + "(#, 26, 0); " + name + "(#, -2, 0); " + name + "(#, 0, -1); "
             + name + "(#, 26, -1)");
         noSuchLetter(name + "(0, #, 0)");
@@ -237,8 +237,8 @@ final class QuestionBoundaries {
             + "call(0, 2); edit(0, 1): 1\n";
         t.says(sentence, "of the page itself and of one that it calls",
             scene + name + "(1, 7, 0): 8; " + name + "(1, 7, 1): 7; " + name + "(1, 7, 2): 3; " + name + "(1, 7, 3): "
-            + "45; " + name + "(1, 7, 4): 9; " + name + "(1, 7, 6): 2; " + name + "(1, NONE, 1): 3; " + name + "(1, "
-            + "NONE, 5): 2");
+            + "45; " + name + "(1, 7, 4): 9; " + name + "(1, 7, 6): 2; " + name + "(1, NONE, 1): 3; "
+            + name + "(1, NONE, 5): 2");
         t.says(sentence, "behind an edit and an undo of a page that it calls",
             scene + "letter(1); edit(0, 0): 2; " + name + "(1, 7, 0): 1; " + name + "(1, 7, 1): 9; " + name
             + "(1, 7, 2): 1; undo(0, 0): 1; " + name + "(1, 7, 0): 8; " + name + "(1, 7, 4): 9");
@@ -258,8 +258,8 @@ final class QuestionBoundaries {
         item(name);
         t.says("place: from 0", "0, 98 and 99 of a hundred",
             "9 x letter(1); letter(2); edit(0, 0): 1; 10 x call(0, NONE); edit(0, 1): 1; " + name + "(1, NONE, 0): 1; "
-            + name + "(1, NONE, 98): 1; " + name + "(1, NONE, 99): 2; " + name + "(1, NONE, 9): 2; " + name + "(1, "
-            + "NONE, 10): 1");
+            + name + "(1, NONE, 98): 1; " + name + "(1, NONE, 99): 2; " + name + "(1, NONE, 9): 2; "
+            + name + "(1, NONE, 10): 1");
         t.says("place: from 0", "in thirty calls of thirty, four deep, of pages that show nothing",
             "30 x callOn(0); edit(0, 1): 1; 30 x callOn(1); edit(0, 2): 1; 30 x callOn(2); edit(0, 3): 1; "
             + "29 x callOn(3); letter(5); edit(0, 4): 1; callOn(4); edit(0, 5): 1\n" + name + "(5, 9, 0): 5; " + name
