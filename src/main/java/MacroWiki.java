@@ -543,8 +543,8 @@ public final class MacroWiki {
         return greatest;
     }
 
-    private static boolean contains(int set, int page) {
-        return (set >> page & 1) != 0;
+    private static boolean contains(int set, int member) {
+        return (set >> member & 1) != 0;
     }
 
     /** A page: its version of now, which knows those before, its lock, and all that it can show. */
@@ -768,12 +768,15 @@ public final class MacroWiki {
         private final int[] values = new int[GREATEST_EXTENT];
         private final int[] sources = new int[GREATEST_EXTENT];
         private int size = 0;
+        /** The set of the anchors that are shown with no argument: each link that leads here asks for one. */
+        private int anchors = 0;
         /** What the WHENs that are open need together, the innermost last. */
         private final int[] openNeeds = new int[MOST_PIECES];
         private int openWhens = 0;
 
         void clear() {
             size = 0;
+            anchors = 0;
             openWhens = 0;
         }
 
@@ -810,6 +813,9 @@ public final class MacroWiki {
             put(values, size, value);
             put(sources, size, source);
             size++;
+            if (need == NONE && sort == ANCHOR) {
+                anchors |= 1 << value;
+            }
         }
 
         void takeCalled(Spread called, int argument) {
@@ -837,12 +843,7 @@ public final class MacroWiki {
         }
 
         boolean hasAnchor(int anchor) {
-            for (int i = 0; i < size; i++) {
-                if (showsSort(i, ANCHOR) && itemWith(i, NONE) == anchor) {
-                    return true;
-                }
-            }
-            return false;
+            return contains(anchors, anchor);
         }
 
         int count(int argument) {

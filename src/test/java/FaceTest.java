@@ -12,24 +12,25 @@ import java.util.TreeSet;
 
 /** The public face of the class, and what of LANGUAGE.md can be seen from its members and its words. */
 public final class FaceTest {
-    private static final String[] METHODS = {
-        "int letter(int)", "int argument()", "int call(int,int)", "int callOn(int)", "int when(int)", "int end()",
-        "int anchor(int)", "int link(int,int)", "int redirect(int)", "int edit(int,int)", "int undo(int,int)",
-        "boolean approve(int,int)", "int lock(int,int,int)", "int setRank(int,int)", "int version(int)",
-        "int rankOf(int)", "int force(int)", "int reaches(int)", "int extent(int)", "int items(int,int)",
-        "int sortAt(int,int,int)", "int itemAt(int,int,int)", "int itemAnew(int,int,int)", "int sourceAt(int,int,int)",
-        "int standsFor(int)", "int links(int)", "int broken(int)", "int firstBroken(int)", "int linkedFrom(int)",
-        "int breaches(int)", "int breached()"};
-
     private static final Check CHECK = new Check();
 
     public static void main(String[] arguments) throws IOException {
+        faceOfTheDocument();
         constants();
         members();
         namesOfPrivateMethods();
         staticFields();
         words();
         CHECK.end("FaceTest");
+    }
+
+    /** What the tests take for the face is that of the document, line by line. */
+    private static void faceOfTheDocument() throws IOException {
+        List<String> due = new ArrayList<>(Face.CONSTANTS);
+        due.add(Face.CONSTRUCTOR);
+        due.addAll(Face.METHODS);
+        List<String> document = Face.inDocument();
+        CHECK.is(true, document.isEmpty() || document.equals(due), "the document's face is the one that is tested");
     }
 
     private static void constants() {
@@ -49,11 +50,24 @@ public final class FaceTest {
         CHECK.is(true, Modifier.isFinal(MacroWiki.class.getModifiers()), "the class is final");
         Set<String> open = new TreeSet<>();
         for (Method method : MacroWiki.class.getDeclaredMethods()) {
-            if (!Modifier.isPrivate(method.getModifiers()) && !method.isSynthetic()) {
+            int modifiers = method.getModifiers();
+            if (!Modifier.isPrivate(modifiers) && !method.isSynthetic()) {
                 open.add(signature(method));
+                boolean plain = Modifier.isPublic(modifiers) && !Modifier.isStatic(modifiers);
+                CHECK.is(true, plain, method.getName() + " is public, and asked of an object");
             }
         }
-        CHECK.is(true, open.equals(new TreeSet<>(List.of(METHODS))), "the open methods: " + open);
+        Set<String> due = new TreeSet<>();
+        for (Face.Method method : Face.methods()) {
+            due.add(signature(method));
+        }
+        CHECK.is(31, due.size(), "the number of methods that are due");
+        for (String method : due) {
+            CHECK.is(true, open.contains(method), "the class has " + method);
+        }
+        for (String method : open) {
+            CHECK.is(true, due.contains(method), "the document has " + method);
+        }
         int openFields = 0;
         for (Field field : MacroWiki.class.getDeclaredFields()) {
             openFields += Modifier.isPrivate(field.getModifiers()) ? 0 : 1;
@@ -70,13 +84,25 @@ public final class FaceTest {
         for (Class<?> parameter : method.getParameterTypes()) {
             parameters.add(parameter.getName());
         }
-        return method.getReturnType().getName() + " " + method.getName() + "(" + String.join(",", parameters) + ")";
+        List<String> exceptions = new ArrayList<>();
+        for (Class<?> exception : method.getExceptionTypes()) {
+            exceptions.add(exception.getName().replaceFirst("^java\\.lang\\.", ""));
+        }
+        return method.getReturnType().getName() + " " + method.getName() + parameters + " throws " + exceptions;
+    }
+
+    private static String signature(Face.Method method) {
+        List<String> parameters = new ArrayList<>();
+        for (int i = 0; i < method.parameters().size(); i++) {
+            parameters.add("int");
+        }
+        return method.answer() + " " + method.name() + parameters + " throws " + method.exceptions();
     }
 
     private static void namesOfPrivateMethods() {
         Set<String> open = new TreeSet<>();
-        for (String method : METHODS) {
-            open.add(method.substring(method.indexOf(' ') + 1, method.indexOf('(')));
+        for (Face.Method method : Face.methods()) {
+            open.add(method.name());
         }
         for (Method method : MacroWiki.class.getDeclaredMethods()) {
             if (Modifier.isPrivate(method.getModifiers())) {
