@@ -392,6 +392,17 @@ final class TermBoundaries {
         t.says(good, "the anchors 0 and 9",
             "link(0, 0); link(0, 9); edit(0, 1): 1; anchor(9); edit(0, 0): 1; broken(1): 1; firstBroken(1): 0; "
             + "anchor(0); edit(0, 0): 2; broken(1): 1; firstBroken(1): 9");
+        t.says(good, "to an anchor that is shown several times",
+            link + "anchor(4); anchor(4); edit(0, 0): 1; broken(1): 0; linkedFrom(0): 2; anchor(4); edit(0, 2): 1; "
+            + "2 x callOn(2); edit(0, 0): 2; broken(1): 0; 3 x callOn(2); edit(0, 0): 3; broken(1): 0; edit(0, 2): 2; "
+            + "broken(1): 1");
+        t.says(good, "to an anchor that is shown with a letter alone, and elsewhere with none",
+            link + "when(1); anchor(4); end(); anchor(4); edit(0, 0): 1; broken(1): 0; anchor(4); when(1); anchor(4); "
+            + "end(); edit(0, 0): 2; broken(1): 0");
+        t.says(good, "to each of ten anchors of one page",
+            Script.each("link(0, #)", Script.from(0, 9)) + "edit(0, 1): 1; broken(1): 10; "
+            + Script.each("anchor(#)", Script.from(0, 9)) + "edit(0, 0): 1; broken(1): 0; "
+            + Script.each("anchor(#)", Script.from(0, 8)) + "edit(0, 0): 2; broken(1): 1; firstBroken(1): 9");
         t.says(good, "the anchor as the last of a hundred items",
             Scenes.letters(10, 0, 2) + "9 x call(2, NONE); 9 x letter(1); anchor(4); edit(0, 0): 1; extent(0): 100; "
             + link + "broken(1): 0");
